@@ -727,7 +727,6 @@ public final class TileWarden {
             slot.depth = depth;
             slot.worth = worth;
             slot.push = push;
-            slot.pins = 0;
             use(slot);
             count++;
         }

@@ -34,6 +34,7 @@ public final class PromisesTest {
         test.promise14SetRoom();
         test.promise14OldestGoes();
         test.promise14OnlySearchesUse();
+        test.promise14PuttingInUses();
         test.promise15Entries();
         test.promise16IsCached();
         test.promise17Pin();
@@ -42,6 +43,8 @@ public final class PromisesTest {
         test.promise19Pinned();
         test.promise20Follows();
         test.promise20DoesNotFollow();
+        test.promise20JustThisState();
+        test.promise20SeveralTraces();
         test.promise20RowBreaks();
         test.promise21SetLimit();
         test.promise22Judge();
@@ -309,7 +312,9 @@ public final class PromisesTest {
         // 010 000 001: nothing merges, and each way is worth 0.
         checks.same("all worth 0", 0, oneGame(1).hint(0, 1));
         // 000 000 011: right and left merge, up and down do not, and down cannot be done.
-        checks.same("the first that merges", 1, oneGame(2).hint(0, 1));
+        TileWarden merging = oneGame(2);
+        checks.same("the first that merges", 1, merging.hint(0, 1));
+        checks.same("the cache never changes a hint", 1, merging.hint(0, 1));
         TileWarden exact = new TileWarden();
         exact.addPlayer(5);
         exact.open(0, 7);
@@ -461,6 +466,26 @@ public final class PromisesTest {
         house.hint(0, 1);
         checks.same("A is still the oldest and goes", false, house.isCached(1, 1));
         checks.same("B stays", true, house.isCached(2, 1));
+    }
+
+    private void promise14PuttingInUses() {
+        TileWarden house = oneGame(7);
+        house.open(0, 7);
+        house.setRoom(2);
+        house.push(0, 0);
+        house.hint(0, 1);
+        house.hint(1, 1);
+        house.hint(0, 1);
+        house.hint(0, 1);
+        house.push(0, 1);
+        house.hint(0, 1);
+        checks.same("it was put in ahead of the last use of the other", false, house.isCached(1, 1));
+        house.push(1, 0);
+        checks.same("the other stays", true, house.isCached(1, 1));
+        house.push(1, 1);
+        house.push(1, 2);
+        house.hint(1, 1);
+        checks.same("what was put in last stays", true, house.isCached(0, 1));
     }
 
     private void promise15Entries() {
@@ -618,13 +643,62 @@ public final class PromisesTest {
         same.open(0, 3);
         same.push(1, same.hint(0, 1));
         checks.same("the same player", 0, same.follows(1));
-        TileWarden state = twins(3);
-        state.open(1, 4);
-        int way = state.hint(0, 1);
-        if (state.canPush(2, way)) {
-            state.push(2, way);
+    }
+
+    private void promise20JustThisState() {
+        int tried = 0;
+        for (int seed = 0; seed < 50; seed++) {
+            TileWarden house = twins(seed);
+            house.push(0, otherWay(house, 0, -1));
+            house.push(1, otherWay(house, 1, otherWay(house, 1, -1)));
+            int told = house.hint(0, 1);
+            if (house.canPush(1, told) && !board(house, 0).equals(board(house, 1))) {
+                house.push(1, told);
+                tried++;
+                checks.same("the same z with another board", 0, house.follows(1));
+            }
         }
-        checks.same("another state", 0, state.follows(2));
+        checks.isTrue("the other can push it too", tried > 0);
+        TileWarden alike = oneGame(7);
+        alike.addPlayer(9999);
+        int seed = 8;
+        while (seed < 10000 && !board(oneGame(seed), 0).equals(board(alike, 0))) {
+            seed++;
+        }
+        alike.open(1, seed);
+        checks.same("the boards are alike", board(alike, 0), board(alike, 1));
+        alike.hint(0, 2);
+        checks.same("the same board with another z is another entry", false, alike.isCached(1, 2));
+        alike.push(1, alike.pushOf(0));
+        checks.same("the same board with another z", 0, alike.follows(1));
+    }
+
+    /** A seed at whose start hints of the depths 1 and 3 tell different pushes. */
+    private static int seedOfTwoHints() {
+        int seed = 0;
+        TileWarden house = oneGame(seed);
+        while (seed < 1000 && house.hint(0, 1) == house.hint(0, 3)) {
+            seed++;
+            house = oneGame(seed);
+        }
+        return seed;
+    }
+
+    private void promise20SeveralTraces() {
+        int seed = seedOfTwoHints();
+        for (int depth = 1; depth < 4; depth += 2) {
+            TileWarden house = twins(seed);
+            int shallow = house.hint(0, 1);
+            int deep = house.hint(0, 3);
+            checks.isTrue("two are told", shallow != deep);
+            house.push(1, depth == 1 ? shallow : deep);
+            checks.same("any of the traces can be followed", 1, house.follows(1));
+            TileWarden own = twins(seed);
+            int told = own.hint(0, depth);
+            own.hint(1, 4 - depth);
+            own.push(1, told);
+            checks.same("one's own trace counts, whatever it told", 0, own.follows(1));
+        }
     }
 
     private void promise20RowBreaks() {
@@ -638,6 +712,10 @@ public final class PromisesTest {
         checks.same("a row begins again", 2, house.follows(1));
         chase(house, 2);
         checks.same("it is the longest now", 3, house.follows(1));
+        way = otherWay(house, 0, -1);
+        house.push(0, way);
+        house.push(1, way);
+        checks.same("the desk judges by the longest", 0, house.judge(1));
     }
 
     private void promise21SetLimit() {
