@@ -65,6 +65,7 @@ public final class FaceTest {
         test.noOtherMemberIsSeen();
         test.noPrivateMethodBearsAPublicName();
         test.theSourceKeepsToTheRules();
+        test.theSourceSaysWhatTheInterfaceSays();
         test.methodsAndClassesAreSmall();
         test.aRunFitsIntoTheRoom();
         test.checks.close();
@@ -139,6 +140,22 @@ public final class FaceTest {
             imports.add(line.group(1));
         }
         checks.same("imports", "[java.util.ArrayList, java.util.NoSuchElementException]", imports.toString());
+    }
+
+    /** The lines that stand ahead of the calls, and the calls up to the next one. */
+    private void theSourceSaysWhatTheInterfaceSays() throws IOException {
+        StringBuilder found = new StringBuilder();
+        Matcher line = Pattern.compile("(?m)^    // (---- .*)$|^    public \\w+ (\\w+)\\(")
+                .matcher(Files.readString(SOURCE));
+        while (line.find()) {
+            found.append(line.group(1) == null ? line.group(2) + " " : "\n" + line.group(1) + ": ");
+        }
+        checks.isTrue("calls by headings: " + found, found.toString().startsWith("\n"
+                + "---- players and games: addPlayer open push at score pushes canPush isOver \n"
+                + "---- hints: price hint worth money \n"
+                + "---- the cache: setRoom entries isCached pin unpin pinned \n"
+                + "---- the desk: follows setLimit judge isVoid traces playerOf pushOf \n"
+                + "---- figures: refunds hitShare meanPrice isSound \n"));
     }
 
     private static String codeOf(String source) {

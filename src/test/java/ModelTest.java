@@ -1,8 +1,3 @@
-import java.lang.reflect.InvocationTargetException;
-import java.lang.reflect.Method;
-import java.util.ArrayList;
-import java.util.HashMap;
-import java.util.List;
 import java.util.Map;
 import java.util.Random;
 import java.util.TreeMap;
@@ -11,18 +6,12 @@ import java.util.TreeMap;
 public final class ModelTest {
     private static final int CALLS = 512;
     private static final int RUNS = 240;
-    private static final Map<String, Method> WARDEN = methodsOf(TileWarden.class);
-    private static final Map<String, Method> HOUSE = methodsOf(PlainHouse.class);
 
     private final Checks checks = new Checks("ModelTest");
     /** How often each answer of note came, so that the runs are known to go where it matters. */
     private final Map<String, Integer> seen = new TreeMap<>();
     private Random dice;
-    private TileWarden warden;
-    private PlainHouse house;
-    private List<String> told;
-    /** Whether the two have answered differently in this run; what comes behind tells nothing new. */
-    private boolean parted;
+    private Pair pair;
 
     public static void main(String[] args) {
         ModelTest test = new ModelTest();
@@ -37,38 +26,11 @@ public final class ModelTest {
         test.checks.close();
     }
 
-    private static Map<String, Method> methodsOf(Class<?> type) {
-        Map<String, Method> methods = new HashMap<>();
-        for (Method method : type.getDeclaredMethods()) {
-            if (java.lang.reflect.Modifier.isPublic(method.getModifiers())) {
-                methods.put(method.getName(), method);
-            }
-        }
-        return methods;
-    }
-
-    private static Object answer(Method method, Object target, Object[] args) {
-        try {
-            return method.invoke(target, args);
-        } catch (InvocationTargetException thrown) {
-            return thrown.getCause().getClass();
-        } catch (IllegalAccessException impossible) {
-            throw new IllegalStateException(impossible);
-        }
-    }
-
-    /** Makes a call on both; tells what it answered. */
-    private Object call(String name, Object... args) {
-        Object want = answer(HOUSE.get(name), house, args);
-        Object got = answer(WARDEN.get(name), warden, args);
-        told.add(name + java.util.Arrays.toString(args) + " = " + got);
-        if (!want.equals(got) && !parted) {
-            parted = true;
-            checks.same("run of calls " + told, want, got);
-        }
+    /** Makes a call on both, and counts what is due. */
+    private void call(String name, Object... args) {
+        Object want = pair.call(name, args);
         String kind = want instanceof Class<?> thrown ? thrown.getSimpleName() : kindOf(want);
         seen.merge(name + " " + kind, 1, Integer::sum);
-        return got;
     }
 
     private static String kindOf(Object answer) {
@@ -78,15 +40,12 @@ public final class ModelTest {
 
     private void begin(int seed) {
         dice = new Random(seed);
-        warden = new TileWarden();
-        house = new PlainHouse();
-        told = new ArrayList<>();
-        parted = false;
+        pair = new Pair(checks);
     }
 
     private void end(String run) {
         askAll();
-        checks.isTrue(run + " answers alike", !parted);
+        checks.isTrue(run + " answers alike", !pair.hasParted());
     }
 
     private void mixedRun(int run) {
@@ -101,7 +60,7 @@ public final class ModelTest {
         for (int game = 0; game < 2 + dice.nextInt(4); game++) {
             call("open", dice.nextInt(2), dice.nextInt(seeds));
         }
-        while (told.size() < CALLS - 40 && !parted) {
+        while (pair.calls() < CALLS - 40 && !pair.hasParted()) {
             mixedCall(style);
         }
         end("the mixed run " + run);
@@ -117,7 +76,7 @@ public final class ModelTest {
             call("open", game == 2 ? dice.nextInt(3) : game, seed);
         }
         call("setLimit", 1 + dice.nextInt(6));
-        for (int step = 0; step < 40 && !parted; step++) {
+        for (int step = 0; step < 40 && !pair.hasParted(); step++) {
             chasingStep();
         }
         end("the chasing run " + run);
@@ -133,7 +92,7 @@ public final class ModelTest {
                 call("pin", game, depth);
             }
         }
-        Object best = answer(HOUSE.get("tellPlainly"), house, new Object[] {0, depth});
+        Object best = pair.ask("tellPlainly", 0, depth);
         int to = dice.nextInt(8) == 0 ? dice.nextInt(4) : (Integer) best;
         for (int game = 0; game < 3; game++) {
             call("push", game, to);
@@ -192,7 +151,7 @@ public final class ModelTest {
         }
         if (style == 1 || dice.nextInt(3) > 0) {
             for (int to = 0; to < 4; to++) {
-                if (Boolean.TRUE.equals(answer(HOUSE.get("canPush"), house, new Object[] {game, to}))) {
+                if (Boolean.TRUE.equals(pair.ask("canPush", game, to))) {
                     return to;
                 }
             }
@@ -213,7 +172,8 @@ public final class ModelTest {
         for (String name : new String[] {"entries", "pinned", "traces", "refunds", "hitShare", "meanPrice"}) {
             call(name);
         }
-        checks.same("isSound", true, call("isSound"));
+        call("isSound");
+        checks.same("isSound", true, pair.ask("isSound"));
         for (int player = 0; player < 4; player++) {
             call("money", player);
         }
@@ -226,7 +186,7 @@ public final class ModelTest {
             call("playerOf", trace);
             call("pushOf", trace);
         }
-        checks.isTrue("a run keeps to " + CALLS + " calls", told.size() <= CALLS);
+        checks.isTrue("a run keeps to " + CALLS + " calls", pair.calls() <= CALLS);
     }
 
     private void checkSeen() {

@@ -8,8 +8,7 @@ public final class PromisesTest {
     private static final Class<UnsupportedOperationException> UNSUPPORTED = UnsupportedOperationException.class;
     private static final Class<NoSuchElementException> MISSING = NoSuchElementException.class;
     private static final Class<ArithmeticException> ARITHMETIC = ArithmeticException.class;
-    /** With the seed 21 these pushes end a game: 212 121 212. */
-    private static final int[] TO_THE_END = {3, 2, 1, 3, 3, 0, 0, 2, 0};
+    private static final int[] TO_THE_END = Houses.toTheEnd();
     private static final int[] NO_INDEX = {Integer.MIN_VALUE, -1, 8, Integer.MAX_VALUE};
 
     private final Checks checks = new Checks("PromisesTest");
@@ -61,63 +60,8 @@ public final class PromisesTest {
 
     // ---- what the tests begin with
 
-    /** A house with one rich player and one game. */
-    private static TileWarden oneGame(int seed) {
-        TileWarden house = new TileWarden();
-        house.addPlayer(9999);
-        house.open(0, seed);
-        return house;
-    }
-
-    /** A house with two rich players, who have the games 0 and 1 in the same state. */
-    private static TileWarden twins(int seed) {
-        TileWarden house = oneGame(seed);
-        house.addPlayer(9999);
-        house.open(1, seed);
-        return house;
-    }
-
-    private static TileWarden gone(int seed, int... ways) {
-        TileWarden house = oneGame(seed);
-        for (int to : ways) {
-            house.push(0, to);
-        }
-        return house;
-    }
-
-    /** The game 0 buys a hint and goes by it; the game 1 does the same without a hint. */
-    private static void chase(TileWarden house, int steps) {
-        for (int step = 0; step < steps; step++) {
-            int told = house.hint(0, 1);
-            house.push(0, told);
-            house.push(1, told);
-        }
-    }
-
-    /** A way that can be pushed and is not this one. */
-    private static int otherWay(TileWarden house, int game, int than) {
-        int way = -1;
-        for (int to = 0; to < 4; to++) {
-            if (to != than && house.canPush(game, to)) {
-                way = to;
-            }
-        }
-        return way;
-    }
-
-    private static String board(TileWarden house, int game) {
-        StringBuilder cells = new StringBuilder();
-        for (int row = 0; row < 3; row++) {
-            cells.append(row == 0 ? "" : " ");
-            for (int column = 0; column < 3; column++) {
-                cells.append(house.at(game, row, column));
-            }
-        }
-        return cells.toString();
-    }
-
     private void board(String want, TileWarden house) {
-        checks.same("board", want, board(house, 0));
+        checks.same("board", want, Houses.board(house, 0));
     }
 
     // ---- players and games
@@ -132,7 +76,7 @@ public final class PromisesTest {
         checks.refused("no player", INDEX, () -> house.money(0));
         checks.refused("no game", INDEX, () -> house.score(0));
         checks.same("room for all", 0, house.setRoom(64));
-        TileWarden other = oneGame(0);
+        TileWarden other = Houses.oneGame(0);
         checks.same("houses are apart", 9999, other.money(0));
         checks.refused("houses are apart", INDEX, () -> house.money(0));
     }
@@ -153,11 +97,11 @@ public final class PromisesTest {
     }
 
     private void promise3Open() {
-        board("100 001 000", oneGame(0));
-        board("010 000 001", oneGame(1));
-        board("000 000 011", oneGame(2));
-        board("000 002 010", oneGame(10));
-        board("000 000 101", oneGame(Integer.MAX_VALUE));
+        board("100 001 000", Houses.oneGame(0));
+        board("010 000 001", Houses.oneGame(1));
+        board("000 000 011", Houses.oneGame(2));
+        board("000 002 010", Houses.oneGame(10));
+        board("000 000 101", Houses.oneGame(Integer.MAX_VALUE));
         TileWarden house = new TileWarden();
         checks.refused("no player", INDEX, () -> house.open(0, 1));
         checks.refused("the player comes first", INDEX, () -> house.open(0, -1));
@@ -173,18 +117,18 @@ public final class PromisesTest {
     }
 
     private void promise4Push() {
-        TileWarden right = gone(1, 2);
+        TileWarden right = Houses.gone(1, 2);
         board("000 000 111", right);
         checks.same("two of three merge at the right", 4, right.push(0, 1));
         board("010 000 012", right);
-        TileWarden left = gone(1, 2);
+        TileWarden left = Houses.gone(1, 2);
         checks.same("two of three merge at the left", 4, left.push(0, 3));
         board("010 000 210", left);
-        TileWarden once = gone(10, 2, 0);
+        TileWarden once = Houses.gone(10, 2, 0);
         board("112 001 000", once);
         checks.same("what has merged does not merge again", 4, once.push(0, 3));
         board("220 100 002", once);
-        TileWarden column = oneGame(7);
+        TileWarden column = Houses.oneGame(7);
         checks.same("a merge in a column", 4, column.push(0, 0));
         checks.same("without a merge", 0, column.push(0, 1));
         checks.same("without a merge", 0, column.push(0, 2));
@@ -192,7 +136,7 @@ public final class PromisesTest {
     }
 
     private void promise4PushRefused() {
-        TileWarden house = oneGame(2);
+        TileWarden house = Houses.oneGame(2);
         checks.refused("no game", INDEX, () -> house.push(1, 0));
         checks.refused("the game comes first", INDEX, () -> house.push(-1, 4));
         checks.refused("no way", ARGUMENT, () -> house.push(0, 4));
@@ -200,15 +144,15 @@ public final class PromisesTest {
         checks.refused("nothing changes by it", UNSUPPORTED, () -> house.push(0, 2));
         board("000 000 011", house);
         checks.same("nothing was pushed", 0, house.pushes(0));
-        TileWarden over = gone(21, TO_THE_END);
+        TileWarden over = Houses.gone(21, TO_THE_END);
         checks.refused("over", UNSUPPORTED, () -> over.push(0, 0));
-        TileWarden voided = voidGame();
-        checks.refused("void", UNSUPPORTED, () -> voided.push(1, otherWay(voided, 1, -1)));
+        TileWarden voided = Houses.voidGame();
+        checks.refused("void", UNSUPPORTED, () -> voided.push(1, Houses.otherWay(voided, 1, -1)));
         checks.refused("the way comes first", ARGUMENT, () -> voided.push(1, 4));
     }
 
     private void promise5At() {
-        TileWarden house = oneGame(10);
+        TileWarden house = Houses.oneGame(10);
         checks.same("a greater tile", 2, house.at(0, 1, 2));
         checks.same("a tile", 1, house.at(0, 2, 1));
         checks.same("an empty cell", 0, house.at(0, 2, 2));
@@ -221,7 +165,7 @@ public final class PromisesTest {
     }
 
     private void promises6And7ScoreAndPushes() {
-        TileWarden house = oneGame(7);
+        TileWarden house = Houses.oneGame(7);
         checks.same("score at first", 0, house.score(0));
         checks.same("pushes at first", 0, house.pushes(0));
         int sum = 0;
@@ -237,7 +181,7 @@ public final class PromisesTest {
     }
 
     private void promise8CanPush() {
-        TileWarden house = oneGame(2);
+        TileWarden house = Houses.oneGame(2);
         board("000 000 011", house);
         checks.same("up they go", true, house.canPush(0, 0));
         checks.same("right they merge", true, house.canPush(0, 1));
@@ -247,12 +191,12 @@ public final class PromisesTest {
         checks.refused("the game comes first", INDEX, () -> house.canPush(1, 4));
         checks.refused("no way", ARGUMENT, () -> house.canPush(0, 4));
         checks.refused("no way", ARGUMENT, () -> house.canPush(0, -1));
-        TileWarden voided = voidGame();
-        checks.isTrue("be it void or not", otherWay(voided, 1, -1) >= 0);
+        TileWarden voided = Houses.voidGame();
+        checks.isTrue("be it void or not", Houses.otherWay(voided, 1, -1) >= 0);
     }
 
     private void promise9IsOver() {
-        TileWarden house = gone(21, TO_THE_END);
+        TileWarden house = Houses.gone(21, TO_THE_END);
         board("212 121 212", house);
         checks.same("over", true, house.isOver(0));
         for (int to = 0; to < 4; to++) {
@@ -264,14 +208,14 @@ public final class PromisesTest {
             house.push(1, TO_THE_END[i]);
         }
         checks.same("now it is", true, house.isOver(1));
-        TileWarden voided = voidGame();
+        TileWarden voided = Houses.voidGame();
         checks.same("a void game is not over by that", false, voided.isOver(1));
     }
 
     // ---- hints
 
     private void promise10Price() {
-        TileWarden house = oneGame(7);
+        TileWarden house = Houses.oneGame(7);
         checks.same("depth 1", 1, house.price(0, 1));
         checks.same("depth 2", 5, house.price(0, 2));
         checks.same("it changes nothing", 5, house.price(0, 2));
@@ -286,10 +230,10 @@ public final class PromisesTest {
         checks.refused("the game comes first", INDEX, () -> house.price(1, 0));
         checks.refused("too low", ARGUMENT, () -> house.price(0, 0));
         checks.refused("too deep", ARGUMENT, () -> house.price(0, 5));
-        TileWarden over = gone(21, TO_THE_END);
+        TileWarden over = Houses.gone(21, TO_THE_END);
         checks.refused("over", UNSUPPORTED, () -> over.price(0, 1));
         checks.refused("the depth comes first", ARGUMENT, () -> over.price(0, 5));
-        TileWarden voided = voidGame();
+        TileWarden voided = Houses.voidGame();
         checks.refused("void", UNSUPPORTED, () -> voided.price(1, 1));
         TileWarden poor = new TileWarden();
         poor.addPlayer(0);
@@ -298,7 +242,7 @@ public final class PromisesTest {
     }
 
     private void promise11Hint() {
-        TileWarden house = oneGame(7);
+        TileWarden house = Houses.oneGame(7);
         checks.same("the lowest push of the best", 0, house.hint(0, 2));
         checks.same("money", 9994, house.money(0));
         checks.same("trace", 1, house.traces());
@@ -307,12 +251,12 @@ public final class PromisesTest {
         checks.same("1 at least", 9993, house.money(0));
         checks.same("each hint leaves a trace", 2, house.traces());
         // 112 001 000: only left merges and right merges; 1 is lower than 3.
-        TileWarden row = gone(10, 2, 0);
+        TileWarden row = Houses.gone(10, 2, 0);
         checks.same("gains alike, the lowest", 1, row.hint(0, 1));
         // 010 000 001: nothing merges, and each way is worth 0.
-        checks.same("all worth 0", 0, oneGame(1).hint(0, 1));
+        checks.same("all worth 0", 0, Houses.oneGame(1).hint(0, 1));
         // 000 000 011: right and left merge, up and down do not, and down cannot be done.
-        TileWarden merging = oneGame(2);
+        TileWarden merging = Houses.oneGame(2);
         checks.same("the first that merges", 1, merging.hint(0, 1));
         checks.same("the cache never changes a hint", 1, merging.hint(0, 1));
         TileWarden exact = new TileWarden();
@@ -335,10 +279,10 @@ public final class PromisesTest {
         checks.refused("no game", INDEX, () -> poor.hint(1, 0));
         checks.refused("too low", ARGUMENT, () -> poor.hint(0, 0));
         checks.refused("too deep", ARGUMENT, () -> poor.hint(0, 5));
-        TileWarden over = gone(21, TO_THE_END);
+        TileWarden over = Houses.gone(21, TO_THE_END);
         checks.refused("over", UNSUPPORTED, () -> over.hint(0, 1));
         checks.refused("the depth comes first", ARGUMENT, () -> over.hint(0, 0));
-        TileWarden voided = voidGame();
+        TileWarden voided = Houses.voidGame();
         checks.refused("void", UNSUPPORTED, () -> voided.hint(1, 1));
         TileWarden poorAndOver = new TileWarden();
         poorAndOver.addPlayer(0);
@@ -369,17 +313,17 @@ public final class PromisesTest {
     }
 
     private void promise12Worth() {
-        TileWarden house = oneGame(7);
+        TileWarden house = Houses.oneGame(7);
         checks.same("depth 0", 0, house.worth(0, 0));
         checks.same("depth 1", 4, house.worth(0, 1));
         checks.same("depth 2", 4, house.worth(0, 2));
         checks.same("without the cache", 0, house.entries());
         // 112 001 000: 4 by left, and then 220 100 002 gives 8 by left or right.
-        TileWarden row = gone(10, 2, 0);
+        TileWarden row = Houses.gone(10, 2, 0);
         checks.same("depth 1", 4, row.worth(0, 1));
         checks.isTrue("depth 2", row.worth(0, 2) >= 12);
-        checks.same("over", 0, gone(21, TO_THE_END).worth(0, 4));
-        TileWarden voided = voidGame();
+        checks.same("over", 0, Houses.gone(21, TO_THE_END).worth(0, 4));
+        TileWarden voided = Houses.voidGame();
         checks.isTrue("void", voided.worth(1, 4) >= 0);
         checks.refused("no game", INDEX, () -> house.worth(1, 9));
         checks.refused("too low", ARGUMENT, () -> house.worth(0, -1));
@@ -387,7 +331,7 @@ public final class PromisesTest {
     }
 
     private void promise13Money() {
-        TileWarden house = twins(3);
+        TileWarden house = Houses.twins(3);
         house.hint(1, 3);
         checks.same("who buys pays", 9999 - (int) house.meanPrice(), house.money(1));
         checks.same("others do not", 9999, house.money(0));
@@ -398,7 +342,7 @@ public final class PromisesTest {
     // ---- the cache
 
     private void promise14SetRoom() {
-        TileWarden house = oneGame(11);
+        TileWarden house = Houses.oneGame(11);
         house.hint(0, 3);
         checks.same("13 entries", 13, house.entries());
         checks.same("too many go", 4, house.setRoom(4));
@@ -417,10 +361,10 @@ public final class PromisesTest {
         checks.refused("more are pinned", UNSUPPORTED, () -> house.setRoom(1));
         checks.refused("the range comes first", ARGUMENT, () -> house.setRoom(0));
         checks.same("as many are pinned", 2, house.setRoom(2));
-        TileWarden deep = oneGame(5);
+        TileWarden deep = Houses.oneGame(5);
         deep.hint(0, 4);
         checks.same("24 at first", 24, deep.entries());
-        TileWarden wide = oneGame(5);
+        TileWarden wide = Houses.oneGame(5);
         wide.setRoom(64);
         int price = wide.price(0, 4);
         wide.hint(0, 4);
@@ -429,7 +373,7 @@ public final class PromisesTest {
 
     /** There is room for two of A, B and C, the entries of three states behind one another. */
     private void promise14OldestGoes() {
-        TileWarden house = oneGame(7);
+        TileWarden house = Houses.oneGame(7);
         house.open(0, 7);
         house.open(0, 7);
         house.setRoom(2);
@@ -449,7 +393,7 @@ public final class PromisesTest {
     }
 
     private void promise14OnlySearchesUse() {
-        TileWarden house = oneGame(7);
+        TileWarden house = Houses.oneGame(7);
         house.open(0, 7);
         house.open(0, 7);
         house.setRoom(2);
@@ -469,7 +413,7 @@ public final class PromisesTest {
     }
 
     private void promise14PuttingInUses() {
-        TileWarden house = oneGame(7);
+        TileWarden house = Houses.oneGame(7);
         house.open(0, 7);
         house.setRoom(2);
         house.push(0, 0);
@@ -489,7 +433,7 @@ public final class PromisesTest {
     }
 
     private void promise15Entries() {
-        TileWarden house = oneGame(7);
+        TileWarden house = Houses.oneGame(7);
         house.hint(0, 1);
         checks.same("one", 1, house.entries());
         house.hint(0, 1);
@@ -502,7 +446,7 @@ public final class PromisesTest {
     }
 
     private void promise16IsCached() {
-        TileWarden house = oneGame(7);
+        TileWarden house = Houses.oneGame(7);
         house.open(0, 8);
         house.open(0, 7);
         house.hint(0, 2);
@@ -519,7 +463,7 @@ public final class PromisesTest {
     }
 
     private void promise17Pin() {
-        TileWarden house = oneGame(11);
+        TileWarden house = Houses.oneGame(11);
         house.open(0, 11);
         house.hint(0, 2);
         house.hint(0, 1);
@@ -540,15 +484,15 @@ public final class PromisesTest {
     }
 
     private void promise17PinRefused() {
-        TileWarden house = oneGame(11);
+        TileWarden house = Houses.oneGame(11);
         checks.refused("no game", INDEX, () -> house.pin(1, 0));
         checks.refused("too low", ARGUMENT, () -> house.pin(0, 0));
         checks.refused("too deep", ARGUMENT, () -> house.pin(0, 5));
         checks.refused("no entry", MISSING, () -> house.pin(0, 4));
-        TileWarden voided = voidGame();
+        TileWarden voided = Houses.voidGame();
         checks.refused("void comes ahead of no entry", UNSUPPORTED, () -> voided.pin(1, 4));
         checks.refused("the depth comes first", ARGUMENT, () -> voided.pin(1, 0));
-        TileWarden over = oneGame(21);
+        TileWarden over = Houses.oneGame(21);
         for (int i = 0; i < TO_THE_END.length - 1; i++) {
             over.push(0, TO_THE_END[i]);
         }
@@ -559,7 +503,7 @@ public final class PromisesTest {
     }
 
     private void promise18Unpin() {
-        TileWarden house = twins(11);
+        TileWarden house = Houses.twins(11);
         house.hint(0, 2);
         house.hint(0, 1);
         house.pin(0, 2);
@@ -573,11 +517,11 @@ public final class PromisesTest {
         checks.same("they can go now", 1, house.setRoom(1));
         checks.same("nothing else goes", true, house.isCached(0, 1));
         checks.refused("no game", INDEX, () -> house.unpin(2));
-        checks.same("a void game", 0, voidGame().unpin(1));
+        checks.same("a void game", 0, Houses.voidGame().unpin(1));
     }
 
     private void promise19Pinned() {
-        TileWarden house = twins(11);
+        TileWarden house = Houses.twins(11);
         house.hint(0, 1);
         house.pin(0, 1);
         house.pin(1, 1);
@@ -590,23 +534,11 @@ public final class PromisesTest {
 
     // ---- the desk
 
-    /** A house where the game 1 is void: it paid 3 ahead and followed three pushes of the game 0. */
-    private static TileWarden voidGame() {
-        TileWarden house = twins(3);
-        house.hint(1, 1);
-        int told = house.hint(0, 1);
-        house.push(0, told);
-        house.push(1, told);
-        chase(house, 3);
-        house.judge(1);
-        return house;
-    }
-
     private void promise20Follows() {
-        TileWarden house = twins(3);
+        TileWarden house = Houses.twins(3);
         checks.same("at first", 0, house.follows(1));
         for (int steps = 1; steps < 6; steps++) {
-            chase(house, 1);
+            Houses.chase(house, 1);
             checks.same("row", steps, house.follows(1));
         }
         checks.same("one does not follow oneself", 0, house.follows(0));
@@ -617,29 +549,29 @@ public final class PromisesTest {
     }
 
     private void promise20DoesNotFollow() {
-        TileWarden other = twins(3);
-        other.push(1, otherWay(other, 1, other.hint(0, 1)));
+        TileWarden other = Houses.twins(3);
+        other.push(1, Houses.otherWay(other, 1, other.hint(0, 1)));
         checks.same("another push than was told", 0, other.follows(1));
-        TileWarden own = twins(3);
+        TileWarden own = Houses.twins(3);
         int told = own.hint(0, 1);
         own.hint(1, 4);
         own.push(1, told);
         checks.same("a hint of one's own", 0, own.follows(1));
-        TileWarden sibling = twins(3);
+        TileWarden sibling = Houses.twins(3);
         sibling.open(1, 3);
         sibling.hint(2, 1);
         sibling.push(1, sibling.hint(0, 1));
         checks.same("a hint in another game of one's own", 0, sibling.follows(1));
-        TileWarden later = twins(3);
+        TileWarden later = Houses.twins(3);
         later.push(1, 0);
         checks.same("the same push would be told", 0, later.hint(0, 1));
         checks.same("it was told later", 0, later.follows(1));
-        TileWarden ownLater = twins(3);
+        TileWarden ownLater = Houses.twins(3);
         ownLater.open(1, 3);
         ownLater.push(1, ownLater.hint(0, 1));
         ownLater.hint(2, 1);
         checks.same("its own was told later", 1, ownLater.follows(1));
-        TileWarden same = oneGame(3);
+        TileWarden same = Houses.oneGame(3);
         same.open(0, 3);
         same.push(1, same.hint(0, 1));
         checks.same("the same player", 0, same.follows(1));
@@ -648,25 +580,26 @@ public final class PromisesTest {
     private void promise20JustThisState() {
         int tried = 0;
         for (int seed = 0; seed < 50; seed++) {
-            TileWarden house = twins(seed);
-            house.push(0, otherWay(house, 0, -1));
-            house.push(1, otherWay(house, 1, otherWay(house, 1, -1)));
+            TileWarden house = Houses.twins(seed);
+            house.push(0, Houses.otherWay(house, 0, -1));
+            house.push(1, Houses.otherWay(house, 1, Houses.otherWay(house, 1, -1)));
             int told = house.hint(0, 1);
-            if (house.canPush(1, told) && !board(house, 0).equals(board(house, 1))) {
+            if (house.canPush(1, told) && !Houses.board(house, 0).equals(Houses.board(house, 1))) {
                 house.push(1, told);
                 tried++;
                 checks.same("the same z with another board", 0, house.follows(1));
             }
         }
         checks.isTrue("the other can push it too", tried > 0);
-        TileWarden alike = oneGame(7);
+        TileWarden alike = Houses.oneGame(7);
         alike.addPlayer(9999);
+        String board = Houses.board(alike, 0);
         int seed = 8;
-        while (seed < 10000 && !board(oneGame(seed), 0).equals(board(alike, 0))) {
+        while (seed < 10000 && !Houses.board(Houses.oneGame(seed), 0).equals(board)) {
             seed++;
         }
         alike.open(1, seed);
-        checks.same("the boards are alike", board(alike, 0), board(alike, 1));
+        checks.same("the boards are alike", board, Houses.board(alike, 1));
         alike.hint(0, 2);
         checks.same("the same board with another z is another entry", false, alike.isCached(1, 2));
         alike.push(1, alike.pushOf(0));
@@ -676,10 +609,10 @@ public final class PromisesTest {
     /** A seed at whose start hints of the depths 1 and 3 tell different pushes. */
     private static int seedOfTwoHints() {
         int seed = 0;
-        TileWarden house = oneGame(seed);
+        TileWarden house = Houses.oneGame(seed);
         while (seed < 1000 && house.hint(0, 1) == house.hint(0, 3)) {
             seed++;
-            house = oneGame(seed);
+            house = Houses.oneGame(seed);
         }
         return seed;
     }
@@ -687,13 +620,13 @@ public final class PromisesTest {
     private void promise20SeveralTraces() {
         int seed = seedOfTwoHints();
         for (int depth = 1; depth < 4; depth += 2) {
-            TileWarden house = twins(seed);
+            TileWarden house = Houses.twins(seed);
             int shallow = house.hint(0, 1);
             int deep = house.hint(0, 3);
             checks.isTrue("two are told", shallow != deep);
             house.push(1, depth == 1 ? shallow : deep);
             checks.same("any of the traces can be followed", 1, house.follows(1));
-            TileWarden own = twins(seed);
+            TileWarden own = Houses.twins(seed);
             int told = own.hint(0, depth);
             own.hint(1, 4 - depth);
             own.push(1, told);
@@ -702,30 +635,30 @@ public final class PromisesTest {
     }
 
     private void promise20RowBreaks() {
-        TileWarden house = twins(3);
-        chase(house, 2);
-        int way = otherWay(house, 0, -1);
+        TileWarden house = Houses.twins(3);
+        Houses.chase(house, 2);
+        int way = Houses.otherWay(house, 0, -1);
         house.push(0, way);
         house.push(1, way);
         checks.same("the longest stays", 2, house.follows(1));
-        chase(house, 1);
+        Houses.chase(house, 1);
         checks.same("a row begins again", 2, house.follows(1));
-        chase(house, 2);
+        Houses.chase(house, 2);
         checks.same("it is the longest now", 3, house.follows(1));
-        way = otherWay(house, 0, -1);
+        way = Houses.otherWay(house, 0, -1);
         house.push(0, way);
         house.push(1, way);
         checks.same("the desk judges by the longest", 0, house.judge(1));
     }
 
     private void promise21SetLimit() {
-        TileWarden house = twins(3);
+        TileWarden house = Houses.twins(3);
         checks.same("3 at first", 3, house.setLimit(9));
         checks.same("the one before", 9, house.setLimit(1));
         checks.refused("too low", ARGUMENT, () -> house.setLimit(0));
         checks.refused("too high", ARGUMENT, () -> house.setLimit(10));
         checks.same("unchanged", 1, house.setLimit(4));
-        chase(house, 4);
+        Houses.chase(house, 4);
         house.setLimit(5);
         checks.same("below the limit", -1, house.judge(1));
         house.setLimit(4);
@@ -733,11 +666,11 @@ public final class PromisesTest {
     }
 
     private void promise22Judge() {
-        TileWarden house = twins(3);
-        chase(house, 2);
+        TileWarden house = Houses.twins(3);
+        Houses.chase(house, 2);
         checks.same("not yet", -1, house.judge(1));
         checks.same("not void by this", false, house.isVoid(1));
-        chase(house, 1);
+        Houses.chase(house, 1);
         int price = house.price(1, 3);
         house.hint(1, 3);
         house.open(1, 50);
@@ -760,8 +693,8 @@ public final class PromisesTest {
     }
 
     private void promise22TakesPinsAway() {
-        TileWarden house = twins(3);
-        chase(house, 3);
+        TileWarden house = Houses.twins(3);
+        Houses.chase(house, 3);
         house.hint(1, 2);
         house.pin(1, 2);
         house.pin(0, 2);
@@ -775,17 +708,17 @@ public final class PromisesTest {
     }
 
     private void promise23IsVoid() {
-        TileWarden house = voidGame();
+        TileWarden house = Houses.voidGame();
         checks.same("void", true, house.isVoid(1));
         checks.same("not void", false, house.isVoid(0));
         checks.refused("no game", INDEX, () -> house.isVoid(2));
-        TileWarden unjudged = twins(3);
-        chase(unjudged, 5);
+        TileWarden unjudged = Houses.twins(3);
+        Houses.chase(unjudged, 5);
         checks.same("only the desk voids", false, unjudged.isVoid(1));
     }
 
     private void promises24To26Traces() {
-        TileWarden house = twins(7);
+        TileWarden house = Houses.twins(7);
         house.hint(1, 2);
         house.hint(0, 1);
         house.push(0, 0);
@@ -796,7 +729,7 @@ public final class PromisesTest {
         checks.same("player of 1", 0, house.playerOf(1));
         checks.same("push of 0", 0, house.pushOf(0));
         checks.same("push of 2", told, house.pushOf(2));
-        TileWarden right = oneGame(2);
+        TileWarden right = Houses.oneGame(2);
         right.hint(0, 1);
         checks.same("push of the hint", 1, right.pushOf(0));
         for (int wrong : new int[] {Integer.MIN_VALUE, -1, 3, 60, Integer.MAX_VALUE}) {
@@ -808,7 +741,7 @@ public final class PromisesTest {
     // ---- figures
 
     private void promise27Refunds() {
-        TileWarden house = twins(3);
+        TileWarden house = Houses.twins(3);
         checks.same("none at first", 0L, house.refunds());
         house.addPlayer(9999);
         house.open(2, 3);
@@ -829,7 +762,7 @@ public final class PromisesTest {
     }
 
     private void promise28HitShare() {
-        TileWarden house = oneGame(7);
+        TileWarden house = Houses.oneGame(7);
         checks.refused("none", ARITHMETIC, house::hitShare);
         house.price(0, 4);
         checks.refused("asking the price makes none", ARITHMETIC, house::hitShare);
@@ -842,20 +775,20 @@ public final class PromisesTest {
     }
 
     private void promise29MeanPrice() {
-        TileWarden house = oneGame(7);
+        TileWarden house = Houses.oneGame(7);
         checks.refused("none", ARITHMETIC, house::meanPrice);
         house.hint(0, 2);
         checks.same("one", 5.0, house.meanPrice());
         house.hint(0, 2);
         house.hint(0, 2);
         checks.same("three", 7.0 / 3.0, house.meanPrice());
-        TileWarden voided = voidGame();
+        TileWarden voided = Houses.voidGame();
         checks.same("paid back or not", (9999 + 9999 - voided.money(0) - voided.money(1) + voided.refunds())
                 / (double) voided.traces(), voided.meanPrice());
     }
 
     private void promise30IsSound() {
-        TileWarden house = voidGame();
+        TileWarden house = Houses.voidGame();
         checks.same("behind a void", true, house.isSound());
         house.setRoom(64);
         house.hint(0, 4);
@@ -863,7 +796,7 @@ public final class PromisesTest {
         checks.same("with a full cache", true, house.isSound());
         house.setRoom(1);
         checks.same("with a small cache", true, house.isSound());
-        TileWarden over = oneGame(21);
+        TileWarden over = Houses.oneGame(21);
         for (int to : TO_THE_END) {
             over.hint(0, 3);
             over.push(0, to);
@@ -872,7 +805,7 @@ public final class PromisesTest {
     }
 
     private void unknownNumbersAreRefused() {
-        TileWarden house = twins(3);
+        TileWarden house = Houses.twins(3);
         house.hint(0, 1);
         for (int wrong : NO_INDEX) {
             checks.refused("open", INDEX, () -> house.open(wrong, 1));
