@@ -17,11 +17,10 @@ import java.util.regex.Pattern;
 import javax.tools.JavaCompiler;
 import javax.tools.ToolProvider;
 
-/** Each example of README.md answers as it says there, and README.md names every call and every test. */
+/** Each example of README.md answers as it says there, and README.md shows every call and names every test. */
 public final class ReadmeTest {
     private static final Path FOLDER = Path.of("build/readme");
     private static final Path TESTS = Path.of("src/test/java");
-    private static final Path SHARED_TESTS = Path.of("../shared/tests");
     private static final String PROGRAM = "ReadmeExamples";
     private static final int MOST_CALLS = 512;
 
@@ -38,7 +37,7 @@ public final class ReadmeTest {
         test.eachExampleAnswersAsItSays();
         test.everyCallHasAnExample();
         test.everyKindOfExceptionHasAnExample();
-        test.everyTestIsNamed();
+        test.everyTestOfTheProjectIsNamed();
         test.checks.close();
     }
 
@@ -144,26 +143,25 @@ public final class ReadmeTest {
         checks.same("exceptions", due, shown);
     }
 
-    /** Whoever adds a test tells about it, with the command that runs it. */
-    private void everyTestIsNamed() throws IOException {
-        checks.begin("everyTestIsNamed");
-        Set<String> due = new TreeSet<>();
-        addNames(due, TESTS, "*Test.java");
-        addNames(due, SHARED_TESTS, "*.java");
+    /** Whoever adds a test tells about it, with the command that runs it. The shared tests come from others. */
+    private void everyTestOfTheProjectIsNamed() throws IOException {
+        checks.begin("everyTestOfTheProjectIsNamed");
         Set<String> told = new TreeSet<>();
-        Matcher command = Pattern.compile("(?m)^java -cp build/\\w+ (\\w+)$").matcher(readme.aboutTests());
+        Matcher command = Pattern.compile("(?m)^java -cp build/own (\\w+)$").matcher(readme.aboutTests());
         while (command.find()) {
             told.add(command.group(1));
         }
-        checks.same("tests with a command", due, told);
+        checks.same("tests with a command", namesOfTests(), told);
         checks.isTrue("all of them at once", readme.aboutTests().contains("bash .ci/run"));
     }
 
-    private static void addNames(Set<String> names, Path folder, String files) throws IOException {
-        try (DirectoryStream<Path> found = Files.newDirectoryStream(folder, files)) {
+    private static Set<String> namesOfTests() throws IOException {
+        Set<String> names = new TreeSet<>();
+        try (DirectoryStream<Path> found = Files.newDirectoryStream(TESTS, "*Test.java")) {
             for (Path file : found) {
                 names.add(file.getFileName().toString().replaceAll("\\.java$", ""));
             }
         }
+        return names;
     }
 }
